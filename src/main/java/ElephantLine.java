@@ -102,15 +102,13 @@ public final class ElephantLine {
     }
 
     public int war(int n) {
-        refusal = outside(n, 0, bytes) ? BAD_NUMBER : FINE;
-        if (refusal != FINE) {
+        if (isRefused(outside(n, 0, bytes) ? BAD_NUMBER : FINE)) {
             return NONE;
         }
         faultTold = reader.readText(n);
         faultPlace = reader.faultAt;
         bytes = 0;
-        refusal = faultTold == 0 ? FINE : FAULTY;
-        if (refusal != FINE) {
+        if (isRefused(faultTold == 0 ? FINE : FAULTY)) {
             return NONE;
         }
         land.copyOf(reader.draft);
@@ -130,8 +128,7 @@ public final class ElephantLine {
     // ---- now
 
     public int lane(int l, int what) {
-        refusal = !land.hasLane(l) || outside(what, 0, 2) ? NO_SUCH : FINE;
-        if (refusal != FINE) {
+        if (isRefused(!land.hasLane(l) || outside(what, 0, 2) ? NO_SUCH : FINE)) {
             return NONE;
         }
         switch (what) {
@@ -145,8 +142,7 @@ public final class ElephantLine {
     }
 
     public int beast(int b, int what) {
-        refusal = !land.hasBeast(b) || outside(what, 0, 7) ? NO_SUCH : FINE;
-        if (refusal != FINE) {
+        if (isRefused(!land.hasBeast(b) || outside(what, 0, 7) ? NO_SUCH : FINE)) {
             return NONE;
         }
         switch (what) {
@@ -170,46 +166,38 @@ public final class ElephantLine {
     }
 
     public long across(int b, boolean lower) {
-        refusal = land.hasBeast(b) ? FINE : NO_SUCH;
-        return refusal != FINE ? NONE : odds.told(odds.acrossOverFull(b), lower);
+        return isRefused(beastTrouble(b)) ? NONE : odds.told(odds.acrossOverFull(b), lower);
     }
 
     public int meets(int b, int l, boolean own) {
-        refusal = land.hasBeast(b) && land.hasLane(l) ? FINE : NO_SUCH;
-        if (refusal != FINE) {
+        if (isRefused(meetingTrouble(b, l))) {
             return NONE;
         }
         return odds.harmIn(b, l, own);
     }
 
     public long mean(int b, int l, boolean own, boolean lower) {
-        refusal = land.hasBeast(b) && land.hasLane(l) ? FINE : NO_SUCH;
-        return refusal != FINE ? NONE : odds.told(odds.meanIn(b, l, own), lower);
+        return isRefused(meetingTrouble(b, l)) ? NONE : odds.told(odds.meanIn(b, l, own), lower);
     }
 
     public long worth(int b, int l, boolean lower) {
-        refusal = land.hasBeast(b) && land.hasLane(l) ? FINE : NO_SUCH;
-        return refusal != FINE ? Long.MIN_VALUE : odds.told(odds.worthIn(b, l), lower);
+        return isRefused(meetingTrouble(b, l)) ? Long.MIN_VALUE : odds.told(odds.worthIn(b, l), lower);
     }
 
     public int bestLane(int b) {
-        refusal = land.hasBeast(b) ? FINE : NO_SUCH;
-        return refusal != FINE ? NONE : odds.laneOfMostWorth(b);
+        return isRefused(beastTrouble(b)) ? NONE : odds.laneOfMostWorth(b);
     }
 
     public long all(boolean own, boolean lower) {
-        refusal = land.isTold() ? FINE : NO_SUCH;
-        return refusal != FINE ? NONE : odds.told(odds.sumOfMeans(own), lower);
+        return isRefused(warTrouble()) ? NONE : odds.told(odds.sumOfMeans(own), lower);
     }
 
     public int worst() {
-        refusal = land.isTold() ? FINE : NO_SUCH;
-        return refusal != FINE ? NONE : odds.beastOfMostOwnHarm();
+        return isRefused(warTrouble()) ? NONE : odds.beastOfMostOwnHarm();
     }
 
     public long worthIf(int b, int l, boolean rain, boolean lower) {
-        refusal = land.hasBeast(b) && land.hasLane(l) ? FINE : NO_SUCH;
-        if (refusal != FINE) {
+        if (isRefused(meetingTrouble(b, l))) {
             return Long.MIN_VALUE;
         }
         int hold = Odds.holdBy(land.kind[b], land.mood[b], rain);
@@ -217,20 +205,17 @@ public final class ElephantLine {
     }
 
     public int moodFor(int b, int l) {
-        refusal = land.hasBeast(b) && land.hasLane(l) ? FINE : NO_SUCH;
-        return refusal != FINE ? NONE : odds.leastMood(b, l);
+        return isRefused(meetingTrouble(b, l)) ? NONE : odds.leastMood(b, l);
     }
 
     public int toHammer() {
-        refusal = land.isTold() ? FINE : NO_SUCH;
-        return refusal != FINE ? NONE : odds.beastBetterDead();
+        return isRefused(warTrouble()) ? NONE : odds.beastBetterDead();
     }
 
     // ---- placed, opened
 
     public int place(int b) {
-        refusal = land.hasBeast(b) ? FINE : NO_SUCH;
-        if (refusal != FINE) {
+        if (isRefused(beastTrouble(b))) {
             return NONE;
         }
         placing.settle();
@@ -238,8 +223,7 @@ public final class ElephantLine {
     }
 
     public long placed(boolean lower) {
-        refusal = land.isTold() ? FINE : NO_SUCH;
-        if (refusal != FINE) {
+        if (isRefused(warTrouble())) {
             return Long.MIN_VALUE;
         }
         placing.settle();
@@ -247,8 +231,7 @@ public final class ElephantLine {
     }
 
     public int out() {
-        refusal = land.isTold() ? FINE : NO_SUCH;
-        if (refusal != FINE) {
+        if (isRefused(warTrouble())) {
             return NONE;
         }
         placing.settle();
@@ -256,13 +239,11 @@ public final class ElephantLine {
     }
 
     public int toOpen() {
-        refusal = land.isTold() ? FINE : NO_SUCH;
-        return refusal != FINE ? NONE : game.laneBestOpened();
+        return isRefused(warTrouble()) ? NONE : game.laneBestOpened();
     }
 
     public int rests(int b) {
-        refusal = land.hasBeast(b) ? FINE : NO_SUCH;
-        if (refusal != FINE) {
+        if (isRefused(beastTrouble(b))) {
             return NONE;
         }
         game.weigh(b);
@@ -270,8 +251,7 @@ public final class ElephantLine {
     }
 
     public int rest(int b) {
-        refusal = land.hasBeast(b) ? FINE : NO_SUCH;
-        if (refusal != FINE) {
+        if (isRefused(beastTrouble(b))) {
             return NONE;
         }
         game.weigh(b);
@@ -279,62 +259,54 @@ public final class ElephantLine {
     }
 
     public int weeks(int l) {
-        refusal = horseTrouble(l, FINE);
-        return refusal != FINE ? NONE : odds.leastWeeks();
+        return isRefused(horseTrouble(l, FINE)) ? NONE : odds.leastWeeks();
     }
 
     // ---- provinces, marches
 
     public int sale(int much) {
-        refusal = saleTrouble(much);
-        return refusal != FINE ? NONE : cheapestSale(much);
+        return isRefused(saleTrouble(much)) ? NONE : fewestToSell(much);
     }
 
     public int saleOver(int much) {
-        refusal = saleTrouble(much);
-        if (refusal != FINE) {
+        if (isRefused(saleTrouble(much))) {
             return NONE;
         }
-        int sold = cheapestSale(much);
-        refusal = sold == NOTHING ? NONE_THERE : FINE;
-        return refusal != FINE ? NONE : priceOf(sold) - much;
+        int sold = fewestToSell(much);
+        return isRefused(sold == NOTHING ? NONE_THERE : FINE) ? NONE : priceOf(sold) - much;
     }
 
     public int march(int from, int to, int many) {
-        refusal = marchTrouble(from, to, many);
-        return refusal != FINE ? NONE : marching.mostThatCome(from, to, many);
+        return isRefused(marchTrouble(from, to, many)) ? NONE : marching.mostThatCome(from, to, many);
     }
 
     public int marchAt(int from, int to, int many, int i) {
-        refusal = marchTrouble(from, to, many);
-        if (refusal != FINE) {
+        if (isRefused(marchTrouble(from, to, many))) {
             return NONE;
         }
         marching.mostThatCome(from, to, many);
-        refusal = outside(i, 0, marching.citiesOnWay() - 1) ? NO_SUCH : FINE;
-        return refusal != FINE ? NONE : marching.cityOnWay(i);
+        if (isRefused(outside(i, 0, marching.citiesOnWay() - 1) ? NO_SUCH : FINE)) {
+            return NONE;
+        }
+        return marching.cityOnWay(i);
     }
 
     public int reach(int from) {
-        refusal = land.hasCity(from) ? FINE : NO_SUCH;
-        return refusal != FINE ? NONE : marching.citiesFrom(from);
+        return isRefused(cityTrouble(from)) ? NONE : marching.citiesFrom(from);
     }
 
     public int worstPass(int from, int to, int many) {
-        refusal = marchTrouble(from, to, many);
-        return refusal != FINE ? NONE : marching.dearestPass(from, to, many);
+        return isRefused(marchTrouble(from, to, many)) ? NONE : marching.dearestPass(from, to, many);
     }
 
     public int setOut(int from, int to, int come) {
-        refusal = marchTrouble(from, to, come);
-        return refusal != FINE ? NONE : marching.leastThatSetOut(from, to, come);
+        return isRefused(marchTrouble(from, to, come)) ? NONE : marching.leastThatSetOut(from, to, come);
     }
 
     // ---- trumpets
 
     public int fits() {
-        refusal = land.isTold() ? FINE : NO_SUCH;
-        if (refusal != FINE) {
+        if (isRefused(warTrouble())) {
             return NONE;
         }
         trumpets.findSets();
@@ -342,8 +314,7 @@ public final class ElephantLine {
     }
 
     public int could() {
-        refusal = land.isTold() ? FINE : NO_SUCH;
-        if (refusal != FINE) {
+        if (isRefused(warTrouble())) {
             return NONE;
         }
         trumpets.findSets();
@@ -351,8 +322,7 @@ public final class ElephantLine {
     }
 
     public int surely() {
-        refusal = land.isTold() ? FINE : NO_SUCH;
-        if (refusal != FINE) {
+        if (isRefused(warTrouble())) {
             return NONE;
         }
         trumpets.findSets();
@@ -360,8 +330,7 @@ public final class ElephantLine {
     }
 
     public int ask() {
-        refusal = land.isTold() ? FINE : NO_SUCH;
-        if (refusal != FINE) {
+        if (isRefused(warTrouble())) {
             return NONE;
         }
         trumpets.findSets();
@@ -369,61 +338,39 @@ public final class ElephantLine {
     }
 
     public int turnedBy(int b) {
-        refusal = land.hasBeast(b) ? FINE : NO_SUCH;
-        return refusal != FINE ? NONE : trumpets.turnBy(b);
+        return isRefused(beastTrouble(b)) ? NONE : trumpets.turnBy(b);
     }
 
     // ---- battles
 
     public int battles(int seed, int n, boolean own) {
-        refusal = battlesTrouble(land.isTold(), seed, n);
-        if (refusal != FINE) {
+        if (isRefused(battlesTrouble(land.isTold(), seed, n))) {
             return NONE;
         }
-        int harm = 0;
-        int drawn = seed;
-        for (int i = 0; i < n; i++) {
-            drawn = fight.fightFrom(drawn);
-            harm += own ? fight.ownHarm : fight.foeHarm;
-        }
-        return harm;
+        fight.fightMany(seed, n);
+        return own ? fight.ownHarmInAll : fight.foeHarmInAll;
     }
 
     public int won(int seed, int n) {
-        refusal = battlesTrouble(land.isTold(), seed, n);
-        if (refusal != FINE) {
+        if (isRefused(battlesTrouble(land.isTold(), seed, n))) {
             return NONE;
         }
-        int count = 0;
-        int drawn = seed;
-        for (int i = 0; i < n; i++) {
-            drawn = fight.fightFrom(drawn);
-            count += fight.foeHarm > fight.ownHarm ? 1 : 0;
-        }
-        return count;
+        fight.fightMany(seed, n);
+        return fight.wins;
     }
 
     public int acrossIn(int b, int seed, int n) {
-        refusal = battlesTrouble(land.hasBeast(b), seed, n);
-        if (refusal != FINE) {
+        if (isRefused(battlesTrouble(land.hasBeast(b), seed, n))) {
             return NONE;
         }
-        int count = 0;
-        int drawn = seed;
-        for (int i = 0; i < n; i++) {
-            drawn = fight.fightFrom(drawn);
-            count += fight.gotAcross >> b & 1;
-        }
-        return count;
+        fight.fightMany(seed, n);
+        return fight.crossings[b];
     }
 
     // ---- acts
 
     public boolean move(int b, int l) {
-        refusal = !land.hasBeast(b) || !land.hasLane(l) ? NO_SUCH
-            : now.isDead(b) || now.at[b] == l ? NOT_SO
-            : FINE;
-        if (refusal != FINE) {
+        if (isRefused(moveTrouble(b, l))) {
             return false;
         }
         past.keep(now);
@@ -432,11 +379,7 @@ public final class ElephantLine {
     }
 
     public int wound(int b, int much) {
-        refusal = !land.hasBeast(b) ? NO_SUCH
-            : outside(much, 1, MOST_WOUND) ? BAD_NUMBER
-            : now.isDead(b) ? NOT_SO
-            : FINE;
-        if (refusal != FINE) {
+        if (isRefused(livingTrouble(b, outside(much, 1, MOST_WOUND) ? BAD_NUMBER : FINE))) {
             return NONE;
         }
         past.keep(now);
@@ -445,8 +388,7 @@ public final class ElephantLine {
     }
 
     public boolean hammer(int b) {
-        refusal = !land.hasBeast(b) ? NO_SUCH : now.isDead(b) ? NOT_SO : FINE;
-        if (refusal != FINE) {
+        if (isRefused(livingTrouble(b, FINE))) {
             return false;
         }
         past.keep(now);
@@ -455,8 +397,7 @@ public final class ElephantLine {
     }
 
     public int teach(int l, int more) {
-        refusal = horseTrouble(l, outside(more, 1, MOST_WEEKS) ? BAD_NUMBER : FINE);
-        if (refusal != FINE) {
+        if (isRefused(horseTrouble(l, outside(more, 1, MOST_WEEKS) ? BAD_NUMBER : FINE))) {
             return NONE;
         }
         past.keep(now);
@@ -465,8 +406,7 @@ public final class ElephantLine {
     }
 
     public boolean rain(boolean is) {
-        refusal = !land.isTold() ? NO_SUCH : now.wet == is ? NOT_SO : FINE;
-        if (refusal != FINE) {
+        if (isRefused(!land.isTold() ? NO_SUCH : now.wet == is ? NOT_SO : FINE)) {
             return false;
         }
         past.keep(now);
@@ -475,19 +415,17 @@ public final class ElephantLine {
     }
 
     public int battle() {
-        refusal = land.isTold() ? FINE : NO_SUCH;
-        if (refusal != FINE) {
+        if (isRefused(warTrouble())) {
             return NONE;
         }
         past.keep(now);
-        now.drawn = fight.fightFrom(now.drawn);
+        fight.fightFrom(now.drawn);
         fight.leaveBehind();
         return fight.foeHarm;
     }
 
     public boolean seed(int v) {
-        refusal = !land.isTold() ? NO_SUCH : outside(v, 0, MOST_SEED) ? BAD_NUMBER : FINE;
-        if (refusal != FINE) {
+        if (isRefused(!land.isTold() ? NO_SUCH : outside(v, 0, MOST_SEED) ? BAD_NUMBER : FINE)) {
             return false;
         }
         now.drawn = v;
@@ -495,18 +433,18 @@ public final class ElephantLine {
     }
 
     public boolean undo() {
-        refusal = past.takeBack(now) ? FINE : NONE_THERE;
-        return refusal == FINE;
+        return !isRefused(past.takeBack(now) ? FINE : NONE_THERE);
     }
 
     public int mark() {
-        refusal = !land.isTold() ? NO_SUCH : past.marks >= MOST_MARKS ? NO_ROOM : FINE;
-        return refusal != FINE ? NONE : past.addMark(now);
+        if (isRefused(!land.isTold() ? NO_SUCH : past.marks >= MOST_MARKS ? NO_ROOM : FINE)) {
+            return NONE;
+        }
+        return past.addMark(now);
     }
 
     public boolean back(int mark) {
-        refusal = past.goBack(mark, now) ? FINE : NO_SUCH;
-        return refusal == FINE;
+        return !isRefused(past.goBack(mark, now) ? FINE : NO_SUCH);
     }
 
     // ---- what is told
@@ -574,7 +512,46 @@ public final class ElephantLine {
         }
     }
 
-    // The number's own trouble comes between those of the lane, as the document tells them.
+    // Troubles are looked for in the order in which the document tells them.
+
+    private boolean isRefused(int number) {
+        refusal = number;
+        return number != FINE;
+    }
+
+    private int warTrouble() {
+        return land.isTold() ? FINE : NO_SUCH;
+    }
+
+    private int beastTrouble(int b) {
+        return land.hasBeast(b) ? FINE : NO_SUCH;
+    }
+
+    private int meetingTrouble(int b, int l) {
+        return land.hasBeast(b) && land.hasLane(l) ? FINE : NO_SUCH;
+    }
+
+    private int cityTrouble(int c) {
+        return land.hasCity(c) ? FINE : NO_SUCH;
+    }
+
+    private int moveTrouble(int b, int l) {
+        if (!land.hasBeast(b) || !land.hasLane(l)) {
+            return NO_SUCH;
+        }
+        return now.isDead(b) || now.at[b] == l ? NOT_SO : FINE;
+    }
+
+    private int livingTrouble(int b, int numberTrouble) {
+        if (!land.hasBeast(b)) {
+            return NO_SUCH;
+        }
+        if (numberTrouble != FINE) {
+            return numberTrouble;
+        }
+        return now.isDead(b) ? NOT_SO : FINE;
+    }
+
     private int horseTrouble(int l, int numberTrouble) {
         if (!land.hasLane(l)) {
             return NO_SUCH;
@@ -586,7 +563,10 @@ public final class ElephantLine {
     }
 
     private int saleTrouble(int much) {
-        return !land.isTold() ? NO_SUCH : outside(much, 0, MOST_SALE) ? BAD_NUMBER : FINE;
+        if (!land.isTold()) {
+            return NO_SUCH;
+        }
+        return outside(much, 0, MOST_SALE) ? BAD_NUMBER : FINE;
     }
 
     private int marchTrouble(int from, int to, int many) {
@@ -611,7 +591,7 @@ public final class ElephantLine {
         return sum;
     }
 
-    private int cheapestSale(int much) {
+    private int fewestToSell(int much) {
         int found = NOTHING;
         int fewest = MOST_BEASTS + 1;
         for (int set = 0; set < 1 << land.beasts; set++) {
@@ -914,10 +894,6 @@ public final class ElephantLine {
                 || isWord("city") || isWord("pass") || isWord("turned");
         }
 
-        boolean isName() {
-            return sort == WORD && !beginsLine();
-        }
-
         boolean isSameAs(int otherStart, int otherEnd) {
             if (end - start != otherEnd - otherStart || otherStart < 0 || otherEnd > limit) {
                 return false;
@@ -1121,7 +1097,7 @@ public final class ElephantLine {
 
         private boolean readNewName(boolean isBeast, int number) {
             token.step();
-            if (!token.isName()) {
+            if (token.sort != Tokens.WORD || token.beginsLine()) {
                 return fail(FORM);
             }
             if (indexOfName() != NONE) {
@@ -1140,7 +1116,7 @@ public final class ElephantLine {
         /** The beast's or the city's number; NONE behind a fault. */
         private int readKnownName(boolean isBeast) {
             token.step();
-            if (!token.isName()) {
+            if (token.sort != Tokens.WORD || token.beginsLine()) {
                 fail(FORM);
                 return NONE;
             }
@@ -1761,6 +1737,10 @@ public final class ElephantLine {
         private int foeHarm;
         private int ownHarm;
         private int gotAcross;
+        private int foeHarmInAll;
+        private int ownHarmInAll;
+        private int wins;
+        private final int[] crossings = new int[MOST_BEASTS];
 
         Fight(Land land, Stand now, Odds odds) {
             this.land = land;
@@ -1768,8 +1748,7 @@ public final class ElephantLine {
             this.odds = odds;
         }
 
-        /** The seed behind the battle. */
-        int fightFrom(int firstSeed) {
+        void fightFrom(int firstSeed) {
             System.arraycopy(now.strong, 0, left, 0, MOST_LANES);
             drawn = firstSeed;
             foeHarm = 0;
@@ -1780,11 +1759,30 @@ public final class ElephantLine {
                     charge(b);
                 }
             }
-            return drawn;
         }
 
         void leaveBehind() {
             System.arraycopy(left, 0, now.strong, 0, MOST_LANES);
+            now.drawn = drawn;
+        }
+
+        void fightMany(int firstSeed, int many) {
+            foeHarmInAll = 0;
+            ownHarmInAll = 0;
+            wins = 0;
+            for (int b = 0; b < land.beasts; b++) {
+                crossings[b] = 0;
+            }
+            drawn = firstSeed;
+            for (int i = 0; i < many; i++) {
+                fightFrom(drawn);
+                foeHarmInAll += foeHarm;
+                ownHarmInAll += ownHarm;
+                wins += foeHarm > ownHarm ? 1 : 0;
+                for (int b = 0; b < land.beasts; b++) {
+                    crossings[b] += gotAcross >> b & 1;
+                }
+            }
         }
 
         private void charge(int b) {
