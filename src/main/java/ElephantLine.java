@@ -1470,12 +1470,13 @@ public final class ElephantLine {
         }
 
         void settle() {
-            for (int taken = 0; taken < SETS; taken++) {
+            int sets = 1 << land.lanes;
+            for (int taken = 0; taken < sets; taken++) {
                 most[land.beasts * SETS + taken] = 0;
             }
             for (int b = land.beasts - 1; b >= 0; b--) {
                 findWorths(b);
-                for (int taken = 0; taken < SETS; taken++) {
+                for (int taken = 0; taken < sets; taken++) {
                     most[b * SETS + taken] = mostFrom(b, taken);
                 }
             }

@@ -22,6 +22,7 @@ public final class NowTest {
         toOpen();
         rests();
         weeks();
+        leastParts();
         Check.end("NowTest");
     }
 
@@ -350,5 +351,26 @@ public final class NowTest {
         Check.due("of force 7 eight are enough", 8, x.weeks(0));
         x.hammer(0);
         Check.due("all dead", 0, x.weeks(0), 0, x);
+    }
+
+    /** The smallest that two sums of worth can differ by still counts. */
+    private static void leastParts() {
+        ElephantLine x = Check.told("field lanes 2 deep 5;lane 1 horse 19;beast a plain in 0 mood 99 price 1"
+            + ";beast b plain in 0 mood 1 price 1;beast c plain in 0 mood 100 price 1");
+        x.wound(0, 18);
+        x.hammer(1);
+        part("a harm to its own side", 490_099_501, 10_000_000_000L, x.all(true, false), x.all(true, true));
+        Check.due("it is the worst", 0, x.worst());
+        Check.due("it is to be hammered", 0, x.toHammer());
+        x = Check.told("field lanes 2 deep 5;lane 1 horse 19;beast a plain in 1 mood 1 price 1");
+        part("a harm to the foe", 1, 10_000_000_000L, x.all(false, false), x.all(false, true));
+        Check.due("it is to be opened", 1, x.toOpen());
+        Check.due("it is the best", 1, x.bestLane(0));
+        x = Check.told("field lanes 2 deep 1;beast a plain in 0 mood 99 price 1");
+        x.wound(0, 18);
+        part("one in a hundred", 1, 100, x.all(true, false), x.all(true, true));
+        Check.due("one in a hundred is the worst", 0, x.worst());
+        Check.due("one in a hundred is to be hammered", 0, x.toHammer());
+        Check.due("one in a hundred is better out", 1, x.out());
     }
 }
