@@ -6,6 +6,7 @@ import java.util.NoSuchElementException;
 final class Check {
     private static int asked = 0;
     private static int wrong = 0;
+    private static String under = "";
 
     private Check() {
     }
@@ -14,8 +15,17 @@ final class Check {
         asked++;
         if (got != want) {
             wrong++;
-            System.out.println(what + " answered " + got + ", due is " + want);
+            System.out.println(under + what + " answered " + got + ", due is " + want);
         }
+    }
+
+    /** What stands ahead of each wrong answer's line from now on. */
+    static void under(String heading) {
+        under = heading;
+    }
+
+    static int asked() {
+        return asked;
     }
 
     static void due(String what, boolean want, boolean got) {
@@ -71,6 +81,36 @@ final class Check {
         ElephantLine x = new ElephantLine();
         due("war of " + text, 0, tell(x, text) < 0 ? 100 * x.fault() + x.where() + 1 : 0);
         return x;
+    }
+
+    /** A text without a fault, told to a new object, which is answered. */
+    static ElephantLine fine(String text, int beasts) {
+        ElephantLine x = new ElephantLine();
+        due("war: " + text, beasts, tell(x, text), 0, x);
+        due("fault: " + text, 0, x.fault());
+        due("where: " + text, -1, x.where());
+        due("tape: " + text, 0, x.size(11));
+        return x;
+    }
+
+    /** A text with a fault, told to a new object. */
+    static void faulty(String text, int fault, int place) {
+        ElephantLine x = new ElephantLine();
+        due("war: " + text, -1, tell(x, text), 4, x);
+        due("fault: " + text, fault, x.fault());
+        due("where: " + text, place, x.where());
+        due("tape: " + text, 0, x.size(11));
+        due("lanes: " + text, 0, x.size(0));
+    }
+
+    static void faultyAtEnd(String text, int fault) {
+        faulty(text, fault, text.length());
+    }
+
+    /** The last token is the fault, whatever stands behind it. */
+    static void faultyAtLast(String text, String last, int fault) {
+        faulty(text + last, fault, text.length());
+        faulty(text + last + " lane;", fault, text.length());
     }
 
     static void end(String name) {

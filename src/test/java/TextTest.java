@@ -19,32 +19,6 @@ public final class TextTest {
         Check.end("TextTest");
     }
 
-    private static void fine(String text, int beasts) {
-        ElephantLine x = new ElephantLine();
-        Check.due("war: " + text, beasts, Check.tell(x, text), 0, x);
-        Check.due("fault: " + text, 0, x.fault());
-        Check.due("where: " + text, -1, x.where());
-        Check.due("tape: " + text, 0, x.size(11));
-    }
-
-    private static void faulty(String text, int fault, int place) {
-        ElephantLine x = new ElephantLine();
-        Check.due("war: " + text, -1, Check.tell(x, text), 4, x);
-        Check.due("fault: " + text, fault, x.fault());
-        Check.due("where: " + text, place, x.where());
-        Check.due("tape: " + text, 0, x.size(11));
-        Check.due("lanes: " + text, 0, x.size(0));
-    }
-
-    private static void faultyAtEnd(String text, int fault) {
-        faulty(text, fault, text.length());
-    }
-
-    private static void faultyAtLast(String text, String last, int fault) {
-        faulty(text + last, fault, text.length());
-        faulty(text + last + " lane;", fault, text.length());
-    }
-
     private static void newObject() {
         ElephantLine x = new ElephantLine();
         Check.due("new trouble", 0, x.trouble());
@@ -100,139 +74,135 @@ public final class TextTest {
     }
 
     private static void forms() {
-        fine(FIELD + BEAST, 1);
-        fine("  field   lanes 3 deep 2  ;  beast e plain in 0 mood 5 price 5  ", 1);
-        fine("field lanes3deep2;beast e plain in0mood5price5", 1);
-        fine("field lanes 003 deep 02;beast e plain in 00 mood 005 price 005", 1);
-        fine(FIELD + ";beast in plain in 0 mood 5 price 5;city mood;city price;turned in", 1);
-        fine(FIELD + ";beast abcdefgh calf in 0 mood 5 price 5", 1);
-        faultyAtEnd("", 1);
-        faultyAtEnd("    ", 1);
-        faulty(";", 1, 0);
-        faulty("Field", 1, 0);
-        faulty("fields", 1, 0);
-        faulty("3", 1, 0);
-        faulty("odd", 1, 0);
-        faultyAtEnd("field", 1);
-        faultyAtEnd("field  ", 1);
-        faultyAtLast("field ", "deep", 1);
-        faultyAtLast("field ", "3", 1);
-        faultyAtEnd("field lanes", 1);
-        faultyAtLast("field lanes ", "three", 1);
-        faultyAtEnd("field lanes 3", 1);
-        faultyAtLast("field lanes 3 ", "2", 1);
-        faultyAtEnd("field lanes 3 deep", 1);
-        faultyAtLast("field lanes 3 deep ", ";", 1);
-        faultyAtEnd(FIELD + ";", 1);
-        faultyAtLast(FIELD + ";", ";", 1);
-        faultyAtLast(FIELD + " ", "beast", 1);
-        faultyAtLast(FIELD + " ", "5", 1);
-        faultyAtLast(FIELD + ";", "odd", 1);
-        faultyAtLast(FIELD + ";", "5", 1);
-        faultyAtEnd(FIELD + ";lane", 1);
-        faultyAtLast(FIELD + ";lane ", "a", 1);
-        faultyAtEnd(FIELD + ";lane 0", 1);
-        faultyAtLast(FIELD + ";lane 0 ", "open5", 0 + 1, FIELD.length() + 12);
-        faultyAtLast(FIELD + ";lane 0 ", "pig", 1);
-        faultyAtLast(FIELD + ";lane 0 ", "5", 1);
-        faultyAtEnd(FIELD + ";lane 0 foot", 1);
-        faultyAtLast(FIELD + ";lane 0 foot ", "x", 1);
-        faultyAtLast(FIELD + ";lane 0 horse ", ";", 1);
-        faultyAtLast(FIELD + ";lane 0 pigs ", "5", 1);
-        faultyAtEnd(FIELD + ";beast", 1);
-        faultyAtLast(FIELD + ";beast ", "7", 1);
-        faultyAtEnd(FIELD + ";beast e", 1);
-        faultyAtLast(FIELD + ";beast e ", "in", 1);
-        faultyAtLast(FIELD + ";beast e plain ", "mood", 1);
-        faultyAtLast(FIELD + ";beast e plain in ", "e", 1);
-        faultyAtLast(FIELD + ";beast e plain in 0 ", "price", 1);
-        faultyAtLast(FIELD + ";beast e plain in 0 mood ", ";", 1);
-        faultyAtLast(FIELD + ";beast e plain in 0 mood 5 ", "in", 1);
-        faultyAtLast(FIELD + ";beast e plain in 0 mood 5 price ", "e", 1);
-        faultyAtLast(FIELD + BEAST + " ", "plain", 1);
-        faultyAtLast(FIELD + BEAST + ";city ", "5", 1);
-        faultyAtEnd(FIELD + BEAST + ";city", 1);
-        faultyAtLast(FIELD + BEAST + ";city a ", "b", 1);
-        faultyAtEnd(FIELD + BEAST + CITIES + ";pass", 1);
-        faultyAtEnd(FIELD + BEAST + CITIES + ";pass a", 1);
-        faultyAtEnd(FIELD + BEAST + CITIES + ";pass a b", 1);
-        faultyAtEnd(FIELD + BEAST + CITIES + ";pass a b loses", 1);
-        faultyAtLast(FIELD + BEAST + CITIES + ";pass a b ", "50", 1);
-        faultyAtLast(FIELD + BEAST + CITIES + ";pass a b ", "lose", 1);
-        faultyAtLast(FIELD + BEAST + CITIES + ";pass a b loses ", "c", 1);
-        faultyAtEnd(FIELD + BEAST + ";turned", 1);
-        faultyAtLast(FIELD + BEAST + ";turned ", "5", 1);
-        faultyAtLast(FIELD + BEAST + ";turned e ", "e", 1);
+        Check.fine(FIELD + BEAST, 1);
+        Check.fine("  field   lanes 3 deep 2  ;  beast e plain in 0 mood 5 price 5  ", 1);
+        Check.fine("field lanes3deep2;beast e plain in0mood5price5", 1);
+        Check.fine("field lanes 003 deep 02;beast e plain in 00 mood 005 price 005", 1);
+        Check.fine(FIELD + ";beast in plain in 0 mood 5 price 5;city mood;city price;turned in", 1);
+        Check.fine(FIELD + ";beast abcdefgh calf in 0 mood 5 price 5", 1);
+        Check.faultyAtEnd("", 1);
+        Check.faultyAtEnd("    ", 1);
+        Check.faulty(";", 1, 0);
+        Check.faulty("Field", 1, 0);
+        Check.faulty("fields", 1, 0);
+        Check.faulty("3", 1, 0);
+        Check.faulty("odd", 1, 0);
+        Check.faultyAtEnd("field", 1);
+        Check.faultyAtEnd("field  ", 1);
+        Check.faultyAtLast("field ", "deep", 1);
+        Check.faultyAtLast("field ", "3", 1);
+        Check.faultyAtEnd("field lanes", 1);
+        Check.faultyAtLast("field lanes ", "three", 1);
+        Check.faultyAtEnd("field lanes 3", 1);
+        Check.faultyAtLast("field lanes 3 ", "2", 1);
+        Check.faultyAtEnd("field lanes 3 deep", 1);
+        Check.faultyAtLast("field lanes 3 deep ", ";", 1);
+        Check.faultyAtEnd(FIELD + ";", 1);
+        Check.faultyAtLast(FIELD + ";", ";", 1);
+        Check.faultyAtLast(FIELD + " ", "beast", 1);
+        Check.faultyAtLast(FIELD + " ", "5", 1);
+        Check.faultyAtLast(FIELD + ";", "odd", 1);
+        Check.faultyAtLast(FIELD + ";", "5", 1);
+        Check.faultyAtEnd(FIELD + ";lane", 1);
+        Check.faultyAtLast(FIELD + ";lane ", "a", 1);
+        Check.faultyAtEnd(FIELD + ";lane 0", 1);
+        Check.faulty(FIELD + ";lane 0 open5", 1, FIELD.length() + 12);
+        Check.faultyAtLast(FIELD + ";lane 0 ", "pig", 1);
+        Check.faultyAtLast(FIELD + ";lane 0 ", "5", 1);
+        Check.faultyAtEnd(FIELD + ";lane 0 foot", 1);
+        Check.faultyAtLast(FIELD + ";lane 0 foot ", "x", 1);
+        Check.faultyAtLast(FIELD + ";lane 0 horse ", ";", 1);
+        Check.faultyAtLast(FIELD + ";lane 0 pigs ", "5", 1);
+        Check.faultyAtEnd(FIELD + ";beast", 1);
+        Check.faultyAtLast(FIELD + ";beast ", "7", 1);
+        Check.faultyAtEnd(FIELD + ";beast e", 1);
+        Check.faultyAtLast(FIELD + ";beast e ", "in", 1);
+        Check.faultyAtLast(FIELD + ";beast e plain ", "mood", 1);
+        Check.faultyAtLast(FIELD + ";beast e plain in ", "e", 1);
+        Check.faultyAtLast(FIELD + ";beast e plain in 0 ", "price", 1);
+        Check.faultyAtLast(FIELD + ";beast e plain in 0 mood ", ";", 1);
+        Check.faultyAtLast(FIELD + ";beast e plain in 0 mood 5 ", "in", 1);
+        Check.faultyAtLast(FIELD + ";beast e plain in 0 mood 5 price ", "e", 1);
+        Check.faultyAtLast(FIELD + BEAST + " ", "plain", 1);
+        Check.faultyAtLast(FIELD + BEAST + ";city ", "5", 1);
+        Check.faultyAtEnd(FIELD + BEAST + ";city", 1);
+        Check.faultyAtLast(FIELD + BEAST + ";city a ", "b", 1);
+        Check.faultyAtEnd(FIELD + BEAST + CITIES + ";pass", 1);
+        Check.faultyAtEnd(FIELD + BEAST + CITIES + ";pass a", 1);
+        Check.faultyAtEnd(FIELD + BEAST + CITIES + ";pass a b", 1);
+        Check.faultyAtEnd(FIELD + BEAST + CITIES + ";pass a b loses", 1);
+        Check.faultyAtLast(FIELD + BEAST + CITIES + ";pass a b ", "50", 1);
+        Check.faultyAtLast(FIELD + BEAST + CITIES + ";pass a b ", "lose", 1);
+        Check.faultyAtLast(FIELD + BEAST + CITIES + ";pass a b loses ", "c", 1);
+        Check.faultyAtEnd(FIELD + BEAST + ";turned", 1);
+        Check.faultyAtLast(FIELD + BEAST + ";turned ", "5", 1);
+        Check.faultyAtLast(FIELD + BEAST + ";turned e ", "e", 1);
         for (String odd : new String[] {"\n", "\t", ".", ",", "A", "Z", "`", "{", "/", ":", "\u0080", "\u00e9", "\u00ff", "\u0000", "\u001f"}) {
-            faultyAtLast(FIELD, odd, 1);
-            faultyAtLast(FIELD + ";beast ", odd, 1);
-            faultyAtLast(FIELD + ";lane ", odd, 1);
+            Check.faultyAtLast(FIELD, odd, 1);
+            Check.faultyAtLast(FIELD + ";beast ", odd, 1);
+            Check.faultyAtLast(FIELD + ";lane ", odd, 1);
         }
-        faultyAtLast(FIELD + ";beast ", "abcdefghi", 1);
-        faultyAtLast("field lanes ", "0003", 1);
-        faultyAtLast("field lanes ", "1000", 1);
-        faulty("fieldlanes 3", 1, 0);
-    }
-
-    private static void faultyAtLast(String text, String last, int fault, int place) {
-        faulty(text + last, fault, place);
+        Check.faultyAtLast(FIELD + ";beast ", "abcdefghi", 1);
+        Check.faultyAtLast("field lanes ", "0003", 1);
+        Check.faultyAtLast("field lanes ", "1000", 1);
+        Check.faulty("fieldlanes 3", 1, 0);
     }
 
     private static void names() {
         for (String word : new String[] {"field", "lane", "beast", "city", "pass", "turned"}) {
-            faultyAtLast(FIELD + ";beast ", word, 1);
-            faultyAtLast(FIELD + ";city ", word, 1);
-            faultyAtLast(FIELD + BEAST + ";turned ", word, 1);
-            faultyAtLast(FIELD + CITIES + ";pass ", word, 1);
-            faultyAtLast(FIELD + CITIES + ";pass a ", word, 1);
+            Check.faultyAtLast(FIELD + ";beast ", word, 1);
+            Check.faultyAtLast(FIELD + ";city ", word, 1);
+            Check.faultyAtLast(FIELD + BEAST + ";turned ", word, 1);
+            Check.faultyAtLast(FIELD + CITIES + ";pass ", word, 1);
+            Check.faultyAtLast(FIELD + CITIES + ";pass a ", word, 1);
         }
-        faultyAtLast(FIELD + ";turned ", "e", 2);
-        faultyAtLast(FIELD + BEAST + ";turned ", "ee", 2);
-        faultyAtLast(FIELD + BEAST + CITIES + ";turned ", "a", 2);
-        faultyAtLast(FIELD + BEAST + CITIES + ";pass ", "e", 2);
-        faultyAtLast(FIELD + BEAST + CITIES + ";pass ", "z", 2);
-        faultyAtLast(FIELD + BEAST + CITIES + ";pass a ", "e", 2);
-        faultyAtLast(FIELD + BEAST + CITIES + ";pass a ", "aa", 2);
-        fine(FIELD + BEAST + ";turned e", 1);
-        fine(FIELD + BEAST + CITIES + ";pass a b loses 0;pass b c loses 99", 1);
+        Check.faultyAtLast(FIELD + ";turned ", "e", 2);
+        Check.faultyAtLast(FIELD + BEAST + ";turned ", "ee", 2);
+        Check.faultyAtLast(FIELD + BEAST + CITIES + ";turned ", "a", 2);
+        Check.faultyAtLast(FIELD + BEAST + CITIES + ";pass ", "e", 2);
+        Check.faultyAtLast(FIELD + BEAST + CITIES + ";pass ", "z", 2);
+        Check.faultyAtLast(FIELD + BEAST + CITIES + ";pass a ", "e", 2);
+        Check.faultyAtLast(FIELD + BEAST + CITIES + ";pass a ", "aa", 2);
+        Check.fine(FIELD + BEAST + ";turned e", 1);
+        Check.fine(FIELD + BEAST + CITIES + ";pass a b loses 0;pass b c loses 99", 1);
     }
 
     private static void bounds() {
-        faultyAtLast("field lanes ", "1", 4);
-        faultyAtLast("field lanes ", "7", 4);
-        faultyAtLast("field lanes 2 deep ", "0", 4);
-        faultyAtLast("field lanes 2 deep ", "6", 4);
+        Check.faultyAtLast("field lanes ", "1", 4);
+        Check.faultyAtLast("field lanes ", "7", 4);
+        Check.faultyAtLast("field lanes 2 deep ", "0", 4);
+        Check.faultyAtLast("field lanes 2 deep ", "6", 4);
         for (int lanes = 2; lanes <= 6; lanes++) {
-            fine("field lanes " + lanes + " deep 1" + BEAST, 1);
-            fine("field lanes " + lanes + " deep 5;beast e plain in " + (lanes - 1) + " mood 0 price 1", 1);
-            faultyAtLast("field lanes " + lanes + " deep 5;beast e plain in ", "" + lanes, 4);
-            fine("field lanes " + lanes + " deep 5;lane " + (lanes - 1) + " pigs" + BEAST, 1);
-            faultyAtLast("field lanes " + lanes + " deep 5;lane ", "" + lanes, 4);
+            Check.fine("field lanes " + lanes + " deep 1" + BEAST, 1);
+            Check.fine("field lanes " + lanes + " deep 5;beast e plain in " + (lanes - 1) + " mood 0 price 1", 1);
+            Check.faultyAtLast("field lanes " + lanes + " deep 5;beast e plain in ", "" + lanes, 4);
+            Check.fine("field lanes " + lanes + " deep 5;lane " + (lanes - 1) + " pigs" + BEAST, 1);
+            Check.faultyAtLast("field lanes " + lanes + " deep 5;lane ", "" + lanes, 4);
         }
-        fine(FIELD + ";lane 0 foot 0;lane 1 foot 60;lane 2 horse 0" + BEAST, 1);
-        fine(FIELD + ";lane 2 horse 30" + BEAST, 1);
-        faultyAtLast(FIELD + ";lane 0 foot ", "61", 4);
-        faultyAtLast(FIELD + ";lane 0 horse ", "31", 4);
-        fine(FIELD + ";beast e plain in 0 mood 100 price 99", 1);
-        faultyAtLast(FIELD + ";beast e plain in 0 mood ", "101", 4);
-        faultyAtLast(FIELD + ";beast e plain in 0 mood 5 price ", "0", 4);
-        faultyAtLast(FIELD + ";beast e plain in 0 mood 5 price ", "100", 4);
-        faultyAtLast(FIELD + BEAST + CITIES + ";pass a b loses ", "100", 4);
+        Check.fine(FIELD + ";lane 0 foot 0;lane 1 foot 60;lane 2 horse 0" + BEAST, 1);
+        Check.fine(FIELD + ";lane 2 horse 30" + BEAST, 1);
+        Check.faultyAtLast(FIELD + ";lane 0 foot ", "61", 4);
+        Check.faultyAtLast(FIELD + ";lane 0 horse ", "31", 4);
+        Check.fine(FIELD + ";beast e plain in 0 mood 100 price 99", 1);
+        Check.faultyAtLast(FIELD + ";beast e plain in 0 mood ", "101", 4);
+        Check.faultyAtLast(FIELD + ";beast e plain in 0 mood 5 price ", "0", 4);
+        Check.faultyAtLast(FIELD + ";beast e plain in 0 mood 5 price ", "100", 4);
+        Check.faultyAtLast(FIELD + BEAST + CITIES + ";pass a b loses ", "100", 4);
     }
 
     private static void toldAgain() {
-        faultyAtLast(FIELD + BEAST + ";beast ", "e", 3);
-        faultyAtLast(FIELD + BEAST + ";city ", "e", 3);
-        faultyAtLast(FIELD + ";city a;beast ", "a", 3);
-        faultyAtLast(FIELD + ";city a;city ", "a", 3);
-        faultyAtLast(FIELD + ";lane 1 open;lane ", "1", 3);
-        faultyAtLast(FIELD + ";lane 0 open;lane 1 open;lane 2 open;lane ", "1", 3);
-        faultyAtLast(FIELD + CITIES + ";pass a ", "a", 3);
-        faultyAtLast(FIELD + CITIES + ";pass a b loses 1;pass a ", "b", 3);
-        faultyAtLast(FIELD + CITIES + ";pass a b loses 0;pass b ", "a", 3);
-        faultyAtLast(FIELD + BEAST + ";turned e;turned ", "e", 3);
-        faultyAtLast(FIELD + ";", "field", 3);
-        faultyAtLast(FIELD + BEAST + ";", "field", 3);
+        Check.faultyAtLast(FIELD + BEAST + ";beast ", "e", 3);
+        Check.faultyAtLast(FIELD + BEAST + ";city ", "e", 3);
+        Check.faultyAtLast(FIELD + ";city a;beast ", "a", 3);
+        Check.faultyAtLast(FIELD + ";city a;city ", "a", 3);
+        Check.faultyAtLast(FIELD + ";lane 1 open;lane ", "1", 3);
+        Check.faultyAtLast(FIELD + ";lane 0 open;lane 1 open;lane 2 open;lane ", "1", 3);
+        Check.faultyAtLast(FIELD + CITIES + ";pass a ", "a", 3);
+        Check.faultyAtLast(FIELD + CITIES + ";pass a b loses 1;pass a ", "b", 3);
+        Check.faultyAtLast(FIELD + CITIES + ";pass a b loses 0;pass b ", "a", 3);
+        Check.faultyAtLast(FIELD + BEAST + ";turned e;turned ", "e", 3);
+        Check.faultyAtLast(FIELD + ";", "field", 3);
+        Check.faultyAtLast(FIELD + BEAST + ";", "field", 3);
     }
 
     private static void many() {
@@ -240,32 +210,32 @@ public final class TextTest {
         for (char c = 'p'; c < 'u'; c++) {
             beasts.append(";beast ").append(c).append(" calf in 1 mood 9 price 9");
         }
-        fine(beasts.toString(), 5);
-        faultyAtLast(beasts + ";", "beast", 5);
-        faultyAtLast(beasts + CITIES + ";", "city", 5);
+        Check.fine(beasts.toString(), 5);
+        Check.faultyAtLast(beasts + ";", "beast", 5);
+        Check.faultyAtLast(beasts + CITIES + ";", "city", 5);
         String passes = beasts + CITIES + ";pass a b loses 1;pass a c loses 1;pass a d loses 1;pass a f loses 1"
             + ";pass a g loses 1;pass b c loses 1;pass b d loses 1;pass b f loses 1;pass b g loses 1";
-        fine(passes, 5);
-        faultyAtLast(passes + ";", "pass", 5);
-        fine(passes + ";turned p;turned q;turned r;turned s;turned t", 5);
+        Check.fine(passes, 5);
+        Check.faultyAtLast(passes + ";", "pass", 5);
+        Check.fine(passes + ";turned p;turned q;turned r;turned s;turned t", 5);
     }
 
     private static void lacks() {
         for (String word : new String[] {"lane", "beast", "city", "pass", "turned"}) {
-            faultyAtLast("", word, 6);
-            faultyAtLast("  ", word, 6);
+            Check.faultyAtLast("", word, 6);
+            Check.faultyAtLast("  ", word, 6);
         }
-        faultyAtEnd(FIELD, 6);
-        faultyAtEnd(FIELD + "  ", 6);
-        faultyAtEnd(FIELD + ";lane 0 pigs" + CITIES, 6);
-        faultyAtEnd(FIELD + CITIES + ";", 1);
+        Check.faultyAtEnd(FIELD, 6);
+        Check.faultyAtEnd(FIELD + "  ", 6);
+        Check.faultyAtEnd(FIELD + ";lane 0 pigs" + CITIES, 6);
+        Check.faultyAtEnd(FIELD + CITIES + ";", 1);
     }
 
     private static void order() {
-        faulty("field lanes 9 deep 9;odd", 4, 12);
-        faulty("field lanes 3 deep 9 .", 4, 19);
-        faulty(FIELD + ";lane 0 foot 99 ;beast beast", 4, 33);
-        faulty(FIELD + ";turned x;lane 9", 2, 28);
+        Check.faulty("field lanes 9 deep 9;odd", 4, 12);
+        Check.faulty("field lanes 3 deep 9 .", 4, 19);
+        Check.faulty(FIELD + ";lane 0 foot 99 ;beast beast", 4, 33);
+        Check.faulty(FIELD + ";turned x;lane 9", 2, 28);
     }
 
     private static void warStays() {
